@@ -13,6 +13,7 @@ public final class DeedsTest {
         promise4Refused();
         promise5Mark();
         promise5GreatestStamp();
+        promise5StampNotTime();
         promise5Refused();
         promise6Undo();
         promise6EightAtMost();
@@ -272,6 +273,23 @@ public final class DeedsTest {
         Check.same("the earlier stamp counts again", x.marksAt(0, 5), 0);
         x.undo(0);
         Check.same("the other author's counts again", x.marksAt(0, 5), 2);
+    }
+
+    /** Which MARK counts does not hang on which one was done or came first. */
+    private static void promise5StampNotTime() {
+        SharedPalimpsest x = abcdef();
+        x.join(0);
+        x.mark(1, 0, 1, 0, true);
+        x.mark(0, 0, 1, 0, false);
+        x.mark(1, 1, 1, 0, true);
+        x.mark(1, 1, 1, 0, true);
+        x.mark(0, 1, 1, 0, false);
+        x.deliverAll(0, 1);
+        x.deliverAll(1, 0);
+        for (int writer = 0; writer < 2; writer++) {
+            Check.same("the greater author, done first, " + writer, x.marksAt(writer, 0), 1);
+            Check.same("the greater STAMP, done first, " + writer, x.marksAt(writer, 1), 1);
+        }
     }
 
     private static void promise5Refused() {

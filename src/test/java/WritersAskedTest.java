@@ -20,6 +20,7 @@ public final class WritersAskedTest {
         promise30Caret();
         promise30CaretInOrder();
         promise31CaretSeen();
+        promise31GreatestNumber();
         Check.end("WritersAskedTest");
     }
 
@@ -306,5 +307,24 @@ public final class WritersAskedTest {
         for (int other : NOBODY) {
             Check.noWriter(x, "caretSeen(0, " + other + ")", () -> x.caretSeen(0, other));
         }
+    }
+
+    /** The deed with the greatest NUMBER of the other one, whatever was known since. */
+    private static void promise31GreatestNumber() {
+        SharedPalimpsest x = new SharedPalimpsest();
+        x.join(0);
+        x.type(0, 0, 0, 3);
+        x.deliverAll(0, 1);
+        x.type(1, 0, 9, 2);
+        x.type(1, 0, 9, 2);
+        Check.same("the first deed that is known", x.caretSeen(1, 0), 7);
+        x.moveCaret(0, 1);
+        x.type(0, 1, 1, 1);
+        x.erase(0, 1, 1);
+        x.deliverAll(0, 1);
+        x.type(1, 0, 9, 1);
+        Check.same("the last one that is known", x.caretSeen(1, 0), 6);
+        x.deliver(1, 0, 0);
+        Check.same("one of two", x.caretSeen(0, 1), 2);
     }
 }
