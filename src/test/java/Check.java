@@ -4,6 +4,14 @@ final class Check {
         long run();
     }
 
+    interface Maker {
+        SharedPalimpsest make();
+    }
+
+    interface NumberCall {
+        long run(SharedPalimpsest x, int number);
+    }
+
     private static int checks = 0;
     private static int wrong = 0;
 
@@ -61,20 +69,71 @@ final class Check {
         refused(x, "IllegalStateException", what, call);
     }
 
+    /** The call is taken, each on a new object, from low to high, and refused beyond these. */
+    static void range(String what, Maker maker, NumberCall call, int low, int high) {
+        for (int number = low; number <= high; number++) {
+            taken(what + " " + number, maker.make(), call, number);
+        }
+        SharedPalimpsest x = maker.make();
+        for (int number : new int[] {low - 1, high + 1, Integer.MAX_VALUE, Integer.MIN_VALUE}) {
+            wrongArgument(x, what + " " + number, () -> call.run(x, number));
+        }
+    }
+
+    static void taken(String what, SharedPalimpsest x, NumberCall call, int number) {
+        checks++;
+        try {
+            call.run(x, number);
+        } catch (RuntimeException e) {
+            wrong++;
+            System.out.println(what + " threw " + e.getClass().getSimpleName() + ", due is none");
+        }
+    }
+
+    /** All that can be asked, in one number. */
+    private static long all(SharedPalimpsest x) {
+        long sum = x.digest();
+        for (int writer = 0; writer < 6; writer++) {
+            sum = sum * 31 + (x.isPresent(writer) ? 1 : 0);
+            sum = sum * 31 + (writer < x.writers() ? x.deedsOf(writer) : -1);
+            if (x.isPresent(writer)) {
+                sum = sum * 31 + allOf(x, writer);
+            }
+        }
+        return sum;
+    }
+
+    private static long allOf(SharedPalimpsest x, int writer) {
+        long sum = x.lengthUndone(writer);
+        for (int version = 0; version <= x.known(writer); version++) {
+            sum = sum * 31 + x.lengthIn(writer, version);
+        }
+        for (int position = 0; position < x.length(writer); position++) {
+            sum = sum * 31 + x.stampAt(writer, position);
+        }
+        for (int other = 0; other < x.writers(); other++) {
+            if (other != writer && x.isPresent(other)) {
+                sum = sum * 31 + x.wouldKnow(writer, other);
+            }
+        }
+        return sum;
+    }
+
     /** The exception must be of this very class, and all that can be asked be as it was. */
     private static void refused(SharedPalimpsest x, String due, String what, Call call) {
         checks++;
-        long before = x.digest();
+        long before = all(x);
         String got = "nothing";
         try {
             call.run();
         } catch (RuntimeException e) {
             got = e.getClass().getSimpleName();
         }
-        if (!got.equals(due) || x.digest() != before) {
+        boolean isSame = all(x) == before;
+        if (!got.equals(due) || !isSame) {
             wrong++;
             System.out.println(what + " threw " + got + ", due is " + due
-                    + (x.digest() == before ? "" : "; and it changed something"));
+                    + (isSame ? "" : "; and it changed something"));
         }
     }
 
