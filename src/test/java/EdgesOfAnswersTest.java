@@ -564,6 +564,8 @@ public final class EdgesOfAnswersTest {
             x.mark(5, 2, 1, kind, true);
             Check.same("the same mark", x.areAlike(5, 4), true);
         }
+        x.mark(4, 0, 1, 0, true);
+        Check.same("a mark of the first letter", x.areAlike(4, 5), false);
         x.erase(4, 0, 3);
         x.erase(5, 0, 3);
         Check.same("both are empty", x.areAlike(4, 5), true);
@@ -577,5 +579,12 @@ public final class EdgesOfAnswersTest {
         z.deliver(0, 1, 0);
         z.erase(0, 3, 1);
         Check.same("another letter by the same author", z.areAlike(0, 1), false);
+        SharedPalimpsest v = new SharedPalimpsest();
+        v.type(0, 0, 0, 1);
+        v.type(0, 1, 5, 1);
+        v.join(0);
+        v.erase(0, 0, 1);
+        v.type(0, 0, 1, 1);
+        Check.same("another first letter", v.areAlike(0, 1), false);
     }
 }

@@ -75,6 +75,7 @@ public final class EdgesOfTermsTest {
         caretBehindErasedFirstOne();
         otherDeedsLeaveIt();
         caretSeenOfTheGreatestNumber();
+        caretSeenOfThatOne();
     }
 
     private static void takingBack() {
@@ -1020,6 +1021,27 @@ public final class EdgesOfTermsTest {
         Check.same("of one that left, too", x.caretSeen(1, 0), 3);
     }
 
+    /** "the deed of that one": not that of another one, though its NUMBER is greater. */
+    private static void caretSeenOfThatOne() {
+        SharedPalimpsest x = writers(3);
+        x.type(0, 0, 0, 6);
+        x.moveCaret(0, 2);
+        x.mark(0, 0, 1, 0, true);
+        x.catchUp(0, 1);
+        x.catchUp(0, 2);
+        for (int i = 0; i < 5; i++) {
+            x.type(1, 6 + i, 10, 1);
+        }
+        Check.same("five of its own", x.caretSeen(1, 0), 2);
+        x.deliverAll(1, 2);
+        Check.same("five of another one", x.caretSeen(2, 0), 2);
+        Check.same("that of the other one", x.caretSeen(2, 1), 11);
+        x.type(2, 0, 20, 1);
+        x.deliverAll(2, 1);
+        Check.same("a lesser NUMBER that came later", x.caretSeen(1, 0), 3);
+        Check.same("that NUMBER is 1", x.caretSeen(1, 2), 1);
+    }
+
     // 6 TAKING BACK
 
     /** "Each one that it does comes to the end of DONE": "An UNDO is of the last one". */
@@ -1081,7 +1103,8 @@ public final class EdgesOfTermsTest {
             for (int i = 0; i < most; i++) {
                 x.undo(0);
             }
-            Check.same("those that left it stay IN EFFECT", x.length(0), many - most);
+            Check.sameText("the first ones left it and stay IN EFFECT", x, 0,
+                    "abcdefghij".substring(0, many - most));
             Check.same("UNDONE has them all", x.redoable(0), most);
             Check.wrongState(x, "no more", () -> x.undo(0));
             for (int i = 0; i < most; i++) {

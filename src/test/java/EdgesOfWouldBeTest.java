@@ -14,6 +14,7 @@ public final class EdgesOfWouldBeTest {
         promise50();
         promise51New();
         promise51WrapsAround();
+        promise51OneOrZero();
         promise51EachNumber();
         manyCallsOfOneKind();
         manyRefusedCalls();
@@ -208,6 +209,25 @@ public final class EdgesOfWouldBeTest {
         }
         Check.same("it is too great for 64 bits", d.bitLength() > 64, true);
         Check.same("so it wraps around", x.digest(), d.longValue());
+    }
+
+    /** "(whether something is so counts 1 or 0)": they do not agree, and are CUT OFF. */
+    private static void promise51OneOrZero() {
+        SharedPalimpsest x = writers(2, 0);
+        x.type(0, 0, 0, 1);
+        for (int isCut = 1; isCut >= 0; isCut--) {
+            x.cut(0, 1);
+            int[] numbers = {
+                2, 1, 0,
+                0, 1, 1, 0, 0, 1, 0, 1, -1, -1, 1, 1, 1, 1, 0, 0, 1, isCut, 1,
+                1, 0, 0, 0, 0, 0, 0, 0, -1, -1, 0, 1, 0, 0, 0, isCut, 0,
+            };
+            long d = 58011;
+            for (int number : numbers) {
+                d = d * 31 + number;
+            }
+            Check.same("CUT OFF counts " + isCut, x.digest(), d);
+        }
     }
 
     /** Each number that goes into it changes it, when it alone is changed. */
